@@ -606,7 +606,7 @@ public final class HymnLamps {
 
         /** A byte as 0 .. 255; NONE when there is none such. */
         int at(int k) {
-            return within(k, size) && k < bytes.length ? bytes[k] & 255 : NONE;
+            return k >= 0 && k < size && k < bytes.length ? bytes[k] & 255 : NONE;
         }
 
         void put(int number) {
@@ -931,8 +931,16 @@ public final class HymnLamps {
             while (count < MOST_STATEMENTS && !reader.failed() && reader.kind != Reader.END) {
                 if (count == 0) {
                     tellGround();
+                } else if (reader.isWord("wall")) {
+                    tellWall();
+                } else if (reader.isWord("person")) {
+                    tellPerson();
+                } else if (reader.isWord("word")) {
+                    tellWord();
+                } else if (reader.isWord("hymn")) {
+                    tellHymn();
                 } else {
-                    tellMore();
+                    reader.fail(1, reader.start);
                 }
                 count++;
             }
@@ -953,20 +961,6 @@ public final class HymnLamps {
                 draft.high = high;
             }
             reader.wantSign(';');
-        }
-
-        void tellMore() {
-            if (reader.isWord("wall")) {
-                tellWall();
-            } else if (reader.isWord("person")) {
-                tellPerson();
-            } else if (reader.isWord("word")) {
-                tellWord();
-            } else if (reader.isWord("hymn")) {
-                tellHymn();
-            } else {
-                reader.fail(1, reader.start);
-            }
         }
 
         void tellWall() {
@@ -1460,6 +1454,14 @@ public final class HymnLamps {
         private static final int AND = -18;
         private static final int OR = -19;
         private static final long MOST = 1000000;
+        /** What is asked; those up to OFTEN ask a TEST, the others a SUM. */
+        private static final int UNKNOWN = 0;
+        private static final int FIRST = 1;
+        private static final int LAST = 2;
+        private static final int OFTEN = 3;
+        private static final int TOTAL = 4;
+        private static final int GREATEST = 5;
+        private static final int SMALLEST = 6;
 
         final Reader reader;
         final Ground ground;
@@ -1471,7 +1473,7 @@ public final class HymnLamps {
         int size;
         int height;
         int open;
-        String asked = "";
+        int asked;
 
         Question(Reader reader, Ground ground, Walks walks, View view) {
             this.reader = reader;
@@ -1486,11 +1488,11 @@ public final class HymnLamps {
             open = 0;
             reader.begin();
             asked = firstWord();
-            if (asked.isEmpty()) {
+            if (asked == UNKNOWN) {
                 reader.fail(1, reader.start);
             }
             reader.advance();
-            if (asked.equals("first") || asked.equals("last") || asked.equals("often")) {
+            if (asked <= OFTEN) {
                 takeTest();
             } else {
                 takeSum();
@@ -1501,23 +1503,23 @@ public final class HymnLamps {
             return !reader.failed();
         }
 
-        String firstWord() {
+        int firstWord() {
             if (reader.isWord("first")) {
-                return "first";
+                return FIRST;
             }
             if (reader.isWord("last")) {
-                return "last";
+                return LAST;
             }
             if (reader.isWord("often")) {
-                return "often";
+                return OFTEN;
             }
             if (reader.isWord("total")) {
-                return "total";
+                return TOTAL;
             }
             if (reader.isWord("most")) {
-                return "most";
+                return GREATEST;
             }
-            return reader.isWord("least") ? "least" : "";
+            return reader.isWord("least") ? SMALLEST : UNKNOWN;
         }
 
         void emit(int code) {
@@ -1699,16 +1701,16 @@ public final class HymnLamps {
 
         /** The answer of all BEATS to the QUESTION that was understood. */
         long answer() {
-            long first = NONE;
-            long last = NONE;
-            long often = 0;
+            int first = NONE;
+            int last = NONE;
+            int often = 0;
             long total = 0;
-            long most = Long.MIN_VALUE;
-            long least = Long.MAX_VALUE;
+            long most = valueIn(0);
+            long least = most;
             for (int beat = 0; beat < BEATS; beat++) {
                 long value = valueIn(beat);
                 if (value != 0) {
-                    first = first == NONE ? beat : first;
+                    first = often == 0 ? beat : first;
                     last = beat;
                     often++;
                 }
@@ -1716,19 +1718,14 @@ public final class HymnLamps {
                 most = Math.max(most, value);
                 least = Math.min(least, value);
             }
-            if (asked.equals("first")) {
-                return first;
+            switch (asked) {
+                case FIRST: return first;
+                case LAST: return last;
+                case OFTEN: return often;
+                case TOTAL: return total;
+                case GREATEST: return most;
+                default: return least;
             }
-            if (asked.equals("last")) {
-                return last;
-            }
-            if (asked.equals("often")) {
-                return often;
-            }
-            if (asked.equals("total")) {
-                return total;
-            }
-            return asked.equals("most") ? most : least;
         }
 
         long valueIn(int beat) {
