@@ -101,6 +101,8 @@ public final class PromisesTest {
         due("feed above 1600 by one", x.feed(1, 2, 3, 4, 5), NONE);
         due("end(1581) again", x.end(1581), true);
         due("end(1582)", x.end(1582), false);
+        due("end(0) of an empty tape", new HymnLamps().end(0), true);
+        due("end(1) of an empty tape", new HymnLamps().end(1), false);
         due("end(1580)", x.end(1580), true);
         due("feed to 1600", x.feed(1, 2, 3, 4, 5), 1600);
         x = Check.on(BARE + "person a at 0 0 lamp 1 walks x;");
@@ -113,6 +115,9 @@ public final class PromisesTest {
             due("fed step " + k, x.person(0, 10 + k), steps[k]);
         }
         due("the tape is gone: end(1)", x.end(1), false);
+        x.feed(0x6E657377, 0, 0, 0, 0);
+        due("end(0)", x.end(0), true);
+        due("nothing is left", x.end(1), false);
     }
 
     private static void textThatStands() {
@@ -182,6 +187,17 @@ public final class PromisesTest {
         CHECK.fault(x, HEAD + "person aB at 0 0 lamp 1 walks x;", 1, 20);
         CHECK.fault(x, HEAD + "person a lamp 0 0 lamp 1 walks x;", 1, 21);
         CHECK.fault(x, HEAD + "person a at0 0 lamp 1 walks x;", 1, 23);
+        CHECK.fault(x, HEAD + "person a 0 0 lamp 1 walks x;", 1, 21);
+        CHECK.fault(x, HEAD + "person a at 0 0 1 walks x;", 1, 28);
+        CHECK.fault(x, HEAD + "person a at 0 0 lamp 1 x;", 1, 35);
+        CHECK.fault(x, HEAD + "word a 0 0 lamp 1;", 1, 19);
+        CHECK.fault(x, HEAD + "word a at 0 0 1;", 1, 26);
+        CHECK.fault(x, HEAD + "word a at 0 0 lamp 1; hymn a 1;", 1, 41);
+        CHECK.fault(x, "ground 3 3 wall 0 0;", 1, 11);
+        CHECK.fault(x, HEAD + "wall 0 0 wall 0 1;", 1, 21);
+        CHECK.fault(x, HEAD + "person a at 0 0 lamp 1 walks x wall 1 1;", 1, 43);
+        CHECK.fault(x, HEAD + "word a at 0 0 lamp 1 wall 1 1;", 1, 33);
+        CHECK.fault(x, HEAD + "word a at 0 0 lamp 1; hymn a beat 1 wall 1 1;", 1, 48);
         CHECK.fault(x, HEAD + "person a at 0 0 lamp 1walks x;", 1, 34);
         CHECK.fault(x, HEAD + "person a at 0 0 lamp 1 walk x;", 1, 35);
         CHECK.fault(x, HEAD + "person a at 0 0 lamp 1 walks ;", 1, 41);
@@ -236,6 +252,8 @@ public final class PromisesTest {
         CHECK.fault(x, HEAD + "word personal", 1, 23);
         CHECK.fault(x, HEAD + "hymn abcdefg", 1, 23);
         CHECK.fault(x, HEAD + "word a at 0 0 lamp 1; word a at", 3, 39);
+        CHECK.fault(x, HEAD + "person a at 0 0 lamp 1 walks x; word a at 0 0 lamp 1;", 3, 49);
+        CHECK.fault(x, HEAD + "person a at 0 0 lamp 1 walks x; person a at 1 1 lamp 1 walks x;", 3, 51);
         CHECK.fault(x, HEAD + "word a at 0 0 lamp 1; person a5", 3, 41);
         CHECK.fault(x, HEAD + "person a at 0 0 lamp 1 walks x; hymn a beat 1;", 3, 49);
         CHECK.fault(x, HEAD + "hymn a beat 1;", 3, 17);
@@ -417,6 +435,13 @@ public final class PromisesTest {
         x = Check.on(BARE + "person a at 0 0 lamp 1 walks e;");
         due("without a clash", x.clash(0), NONE);
         due("clashes() without one", x.clashes(), 0);
+        x = Check.on(HEAD + "person a at 0 0 lamp 1 walks ex; person b at 1 0 lamp 1 walks wx;");
+        due("they change in BEAT 1", x.clash(0), 1);
+        due("once", x.clashes(), 1);
+        x = Check.on(HEAD + "person a at 0 0 lamp 1 walks ex; person b at 1 0 lamp 1 walks xx; person c at 2 2 lamp 1 walks xxxw;");
+        due("one comes to another one for two BEATS", x.clashes(), 2);
+        x = Check.on(HEAD + "person a at 1 0 lamp 1 walks ew; person b at 0 0 lamp 1 walks e;");
+        due("one steps aside, both meet later", x.clash(0), 2);
         x = Check.on(HEAD + "person a at 0 0 lamp 1 walks e; person b at 1 0 lamp 1 walks e;");
         due("one behind the other is none until the side", x.clash(0), 2);
     }
@@ -428,6 +453,7 @@ public final class PromisesTest {
         due("at the side", x.still(2), 2);
         due("still(3)", x.still(3), NONE);
         due("still(-1)", x.still(-1), NONE);
+        due("in BEAT 1 already", Check.on(HEAD + "person a at 0 0 lamp 1 walks ne;").still(0), 1);
     }
 
     // ---- promises 16 to 21
@@ -484,6 +510,10 @@ public final class PromisesTest {
         due("said(49)", x.said(49), 9901);
         due("said(50)", x.said(50), NONE);
         due("said(-2)", x.said(-2), NONE);
+        HymnLamps ahead = Check.on(HEAD + "person a at 0 0 lamp 1 walks e; word u at 0 0 lamp 1; word v at 2 0 lamp 1;");
+        due("from BEAT 0 on", ahead.said(0), 0);
+        due("to BEAT 99", ahead.said(98), 9901);
+        due("99 of them", ahead.said(NONE), 99);
         due("between(0, 99)", x.between(0, 99), 49);
         due("between(1, 3): neither end", x.between(1, 3), 0);
         due("between(0, 2)", x.between(0, 2), 1);
@@ -537,6 +567,26 @@ public final class PromisesTest {
         due("one is on the other side", x.least(0, 1, NONE), NONE);
         due("one is a wall", x.least(0, 2, NONE), NONE);
         due("a wall, soon", x.soon(0, 2), NONE);
+        StringBuilder s = new StringBuilder("ground 8 3;");
+        for (int k = 0; k < 8; k++) {
+            s.append("person p").append((char) ('a' + k)).append(" at ").append(k).append(" 0 lamp 1 walks x;");
+        }
+        s.append("word u");
+        for (int k = 0; k < 8; k++) {
+            s.append(" at ").append(7 - k).append(" 2 lamp 1");
+        }
+        x = Check.on(s.append("; word v at 0 0 lamp 1 at 2 0 lamp 1;").toString());
+        due("eight of them", x.least(0, 0, NONE), 16);
+        due("soon, eight of them", x.soon(0, 0), 2);
+        for (int k = 0; k < 8; k++) {
+            due("goes " + k, x.least(0, 0, k), 16 + k);
+        }
+        for (int k = 0; k < 6; k++) {
+            x.lamp(k, 0);
+        }
+        due("two of them, after the eight", x.least(0, 1, NONE), 11);
+        due("g goes", x.least(0, 1, 0), 0);
+        due("soon, two of them", x.soon(0, 1), 6);
     }
 
     private static void soon() {
@@ -655,6 +705,14 @@ public final class PromisesTest {
         // his first step missed, c is under b's greater lamp; his second missed, he is seen
         due("the picture stays with acts", x.missed(2, NONE), 1);
         due("under the greater lamp", x.missed(2, 0), 201);
+        x = Check.on(HEAD + "person a at 0 0 lamp 1 walks ex; person b at 2 2 lamp 2 walks nx;");
+        Check.tape(x, 1, 0, 0, 0, 0, 2, 0, 0, 0);
+        due("paint() the first cell", x.paint(), true);
+        due("missed in the first cell", x.missed(1, NONE), 1);
+        due("he stays in the first cell", x.missed(1, 0), 1);
+        Check.tape(x, 0, 1, 0, 0, 0, 0, 0, 0, 2);
+        due("paint() the last cell", x.paint(), true);
+        due("he stays in the last cell", x.missed(1, 0), 101);
         x = Check.on("ground 4 3; wall 1 1; person a at 0 0 lamp 1 walks es;");
         Check.tape(x, 0, 0, 0, 0, 1, 0, 0, 0, 0, 0, 0, 0);
         due("paint() by the wall", x.paint(), true);
@@ -674,6 +732,15 @@ public final class PromisesTest {
         due("alike(5)", x.alike(5), NONE);
         due("alike(-2)", x.alike(-2), NONE);
         due("alike(NONE) of nobody", Check.on(BARE).alike(NONE), 0);
+        x = Check.on("ground 3 3; person a at 0 0 lamp 1 walks enx; person b at 1 0 lamp 1 walks enxenx;"
+                + " person c at 2 0 lamp 1 walks w; person d at 0 1 lamp 1 walks wwww; person e at 1 1 lamp 0 walks wwwwwwwwwww;"
+                + " person f at 2 1 lamp 1 walks enxenw; person g at 0 2 lamp 1 walks enxenxenxenx;");
+        due("sorts", x.alike(NONE), 3);
+        due("alike by three", x.alike(0), 3);
+        due("alike by one", x.alike(4), 3);
+        due("another one at last", x.alike(5), 1);
+        due("RHYME of eleven", x.person(4, 3), 1);
+        due("RHYME of twelve by three", x.person(6, 3), 3);
     }
 
     // ---- promises 29 to 32
@@ -749,7 +816,13 @@ public final class PromisesTest {
         due("thirteen are too many", x.learn(0, 0), NONE);
         due("no act", x.ground(8), 0);
         due("twelve", x.learn(0, 1), 12);
+        x.lamp(0, 2);
+        due("another lamp", x.learn(0, 1), NONE);
+        x.undo();
         due("by beat 12", x.read(12, false), 1);
+        x = Check.on(HEAD + "person a at 0 0 lamp 1 walks n; word u at 1 0 lamp 1;");
+        due("one step", x.learn(0, 0), 1);
+        due("e", x.person(0, 10), 1);
     }
 
     private static void undo() {
@@ -763,6 +836,7 @@ public final class PromisesTest {
         due("learn(0, 0)", x.learn(0, 0), 2);
         due("undo() of learn", x.undo(), true);
         due("as before", x.person(0, 2), 1);
+        due("his walk as before", x.where(0, 1), 3);
         due("undo() of teach", x.undo(), true);
         due("as told", x.where(0, 1), 1);
         due("no more", x.undo(), false);
@@ -776,6 +850,18 @@ public final class PromisesTest {
         }
         due("no more than twenty", x.undo(), false);
         due("the five first stay", x.person(0, 1), 2);
+        x = Check.on("ground 3 3; person a at 0 0 lamp 1 walks e; person b at 2 2 lamp 2 walks w; person c at 1 1 lamp 0 walks x;");
+        x.lamp(2, 2);
+        taught(x, 1, "n");
+        x.lamp(0, 0);
+        due("undo the third", x.undo(), true);
+        due("a has his lamp", x.person(0, 1), 1);
+        due("b has learnt", x.where(1, 1), 5);
+        due("undo the second", x.undo(), true);
+        due("b goes as told", x.where(1, 1), 7);
+        due("c has his lamp still", x.person(2, 1), 2);
+        due("undo the first", x.undo(), true);
+        due("c has none", x.person(2, 1), 0);
         due("ground(8)", x.ground(8), 0);
     }
 
@@ -910,6 +996,8 @@ public final class PromisesTest {
         CHECK.askedFault(x, "total 12345", 1, 10);
         CHECK.askedFault(x, "total at 12345", 1, 13);
         CHECK.askedFault(x, "total min 5", 1, 10);
+        CHECK.askedFault(x, "total min+5", 1, 9);
+        CHECK.askedFault(x, "total max", 1, 9);
         CHECK.askedFault(x, "total min(5)", 1, 11);
         CHECK.askedFault(x, "total min(5,6", 1, 13);
         CHECK.askedFault(x, "total min(5,6,7)", 1, 13);
@@ -933,6 +1021,16 @@ public final class PromisesTest {
         CHECK.askedFault(x, "first [[[[[[not", 4, 12);
         CHECK.askedFault(x, "first not not not not not not not", 4, 30);
         due("a FAULT of ask() leaves the ground", x.ground(3), 3);
+        CHECK.asked(x, "total ((((((1))))))", 100);
+        String longest = "total " + many("1+", 796) + "1";
+        for (int k = 0; k < 9; k++) {
+            CHECK.asked(x, longest, 79700);
+        }
+        CHECK.askedFault(x, longest + ";", 1, 1599);
+        CHECK.asked(x, "most 1-(2-min(3,4-(5-max(6,7-(8-9*(10+11))))))", 2);
+        String deep = "often [1=0 or 1=1 and [1=0 or 1=1 and [1=0 or 1=1 and [1=0 or 1=1 and 1-2*min(1,2-3*max(1,1+1*1))<0]]]]";
+        CHECK.asked(x, deep, 0);
+        CHECK.asked(x, deep.replace("<0", ">0"), 100);
     }
 
     // ---- promises 34 to 36
@@ -1010,9 +1108,21 @@ public final class PromisesTest {
         due("nothing", boarded(x), false);
         Check.tape(x, "");
         due("an empty tape", x.on(), false);
+        due("a bad step behind others", boarded(x, 1, 1, 2, 2, 3, 4, 0, 5), false);
+        due("a bad step at last", boarded(x, 1, 3, 2, 1, 9, 2, 1, 0), false);
         due("all stays", x.person(0, 1), 2);
         due("acts stay", x.ground(8), 1);
         due("image() of what is on", x.image(), 9);
+        int[] twelve = {2, 12, 0, 1, 2, 3, 4, 0, 1, 2, 3, 4, 4, 3, 1, 5, 3, 2, 1, 0, 4};
+        due("twelve steps on", boarded(x, twelve), true);
+        for (int k = 0; k < 12; k++) {
+            due("step on " + k, x.person(0, 10 + k), twelve[2 + k]);
+        }
+        for (int k = 0; k < 5; k++) {
+            due("other step on " + k, x.person(1, 10 + k), twelve[16 + k]);
+        }
+        due("twelve and no more", x.person(0, 22), NONE);
+        due("five and no more", x.person(1, 15), NONE);
         x = Check.on(BARE);
         due("an image of nobody", boarded(x), true);
         Check.tape(x, 108);
