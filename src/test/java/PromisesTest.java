@@ -1023,7 +1023,8 @@ public final class PromisesTest {
         due("a FAULT of ask() leaves the ground", x.ground(3), 3);
         CHECK.asked(x, "total ((((((1))))))", 100);
         String longest = "total " + many("1+", 796) + "1";
-        for (int k = 0; k < 9; k++) {
+        x = Check.on(PLAIN);
+        for (int k = 0; k < 3; k++) {
             CHECK.asked(x, longest, 79700);
         }
         CHECK.askedFault(x, longest + ";", 1, 1599);
@@ -1067,14 +1068,7 @@ public final class PromisesTest {
     }
 
     private static boolean boarded(HymnLamps x, int... bytes) {
-        int sum = 109;
-        int[] all = new int[bytes.length + 1];
-        for (int k = 0; k < bytes.length; k++) {
-            all[k] = bytes[k];
-            sum = (3 * sum + bytes[k]) % 251;
-        }
-        all[bytes.length] = sum;
-        Check.tape(x, all);
+        Check.image(x, bytes);
         boolean on = x.on();
         due("the tape is gone", x.end(1), false);
         return on;

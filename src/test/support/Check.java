@@ -43,6 +43,48 @@ public final class Check {
         }
     }
 
+    /** What an object answers to some 150 calls that change nothing: what a refused call has to leave as it was. */
+    public static String answers(HymnLamps x) {
+        StringBuilder s = new StringBuilder();
+        s.append(x.fault(0)).append(' ').append(x.fault(1)).append(" ground");
+        for (int what = 0; what <= 8; what++) {
+            s.append(' ').append(x.ground(what));
+        }
+        for (int k = 0; k < 3; k++) {
+            s.append("\nperson ").append(k);
+            for (int what = 0; what <= 4; what++) {
+                s.append(' ').append(x.person(k, what));
+            }
+            for (int step = 0; step < 4; step++) {
+                s.append(' ').append(x.person(k, 10 + step)).append(' ').append(x.where(k, 1 + step * 2));
+            }
+            s.append(" word ").append(x.word(k, HymnLamps.NONE)).append(' ').append(x.hymn(k, 0)).append(' ').append(x.hymn(k, 1));
+            s.append(" letters ").append(x.letter(0, k, 0)).append(' ').append(x.letter(1, k, 0));
+        }
+        for (int cell = 0; cell < 12; cell++) {
+            s.append(' ').append(x.word(0, cell)).append(' ').append(x.steps(cell, cell)).append(' ').append(x.lit(1, cell));
+        }
+        s.append("\nsum ").append(x.clash(0)).append(' ').append(x.clashes()).append(' ').append(x.said(HymnLamps.NONE)).append(' ')
+                .append(x.alike(HymnLamps.NONE)).append(' ').append(x.danger(1)).append(' ').append(x.nearest(1, 2)).append(' ')
+                .append(x.read(1, true)).append(' ').append(x.least(0, 0, HymnLamps.NONE)).append(' ').append(x.soon(0, 0));
+        s.append("\npicture");
+        for (int beat = 0; beat < 4; beat++) {
+            s.append(' ').append(x.missed(beat, HymnLamps.NONE));
+        }
+        s.append("\nimage");
+        for (int k = 0; k < 12; k++) {
+            s.append(' ').append(x.octet(k));
+        }
+        return s.toString();
+    }
+
+    public void same(String call, String got, String want) {
+        if (!got.equals(want)) {
+            wrong++;
+            System.out.println(call + " left\n" + got + "\ndue is\n" + want);
+        }
+    }
+
     public static HymnLamps on(String text) {
         HymnLamps x = new HymnLamps();
         tape(x, text);
@@ -73,5 +115,17 @@ public final class Check {
             x.feed(numbers[0], numbers[1], numbers[2], numbers[3], numbers[4]);
         }
         x.end(bytes.length);
+    }
+
+    /** Makes these bytes, and the sum behind them, the whole tape. */
+    public static void image(HymnLamps x, int... bytes) {
+        int[] all = new int[bytes.length + 1];
+        int sum = 109;
+        for (int k = 0; k < bytes.length; k++) {
+            all[k] = bytes[k];
+            sum = (3 * sum + bytes[k]) % 251;
+        }
+        all[bytes.length] = sum;
+        tape(x, all);
     }
 }
