@@ -1283,7 +1283,7 @@ public final class HymnLamps {
             for (int k = 0; k < size && k < MOST_CELLS; k++) {
                 for (int step = 0; step < WAYS; step++) {
                     int next = ground.nextCell(queue[k], step);
-                    if (distances[next] == TOO_FAR && size < MOST_CELLS) {
+                    if (within(next, MOST_CELLS) && distances[next] == TOO_FAR && size < MOST_CELLS) {
                         distances[next] = distances[queue[k]] + 1;
                         queue[size] = next;
                         size++;
@@ -1540,7 +1540,7 @@ public final class HymnLamps {
             return true;
         }
 
-        void takeTest() {
+        private void takeTest() {
             takeFact();
             boolean orWaits = false;
             for (int n = 0; n < MOST_BYTES && (reader.isWord("and") || reader.isWord("or")); n++) {
@@ -1561,7 +1561,7 @@ public final class HymnLamps {
             }
         }
 
-        void takeFact() {
+        private void takeFact() {
             if (reader.isWord("not")) {
                 if (opens()) {
                     takeFact();
@@ -1599,7 +1599,7 @@ public final class HymnLamps {
             return SAME;
         }
 
-        void takeSum() {
+        private void takeSum() {
             takePart();
             int waits = 0;
             for (int n = 0; n < MOST_BYTES && calculation() != 0; n++) {
@@ -1635,7 +1635,7 @@ public final class HymnLamps {
             return reader.isSign('/') ? OVER : 0;
         }
 
-        void takePart() {
+        private void takePart() {
             if (reader.kind == Reader.NUMBER) {
                 emit(reader.wantNumber(0, 9999));
             } else if (reader.isSign('(')) {
@@ -1664,7 +1664,7 @@ public final class HymnLamps {
             }
         }
 
-        void takePair() {
+        private void takePair() {
             if (!reader.isSign('(')) {
                 reader.fail(1, reader.start);
             } else if (opens()) {
